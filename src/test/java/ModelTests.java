@@ -5,6 +5,8 @@ import java.util.Random;
 
 /** Long runs of calls with a fixed seed, each answer compared with that of a plain, slow model. */
 public final class ModelTests {
+    /** What an object answers behind so many calls is free. */
+    private static final int MOST_CALLS = 512;
     private static int wrong = 0;
 
     public static void main(String[] args) {
@@ -38,7 +40,7 @@ public final class ModelTests {
 
         int go() {
             int turns = from(0, 2);
-            while (calls < 500) {
+            while (calls < MOST_CALLS) {
                 if (turns > 0 || from(0, 60) == 0) {
                     turns = Math.max(0, turns - 1);
                     tell(madeText());
@@ -50,7 +52,7 @@ public final class ModelTests {
         }
 
         void tell(String text) {
-            for (int i = 0; i < text.length() && calls < 500; i++) {
+            for (int i = 0; i < text.length(); i++) {
                 same("write", text.charAt(i));
             }
             same("fault");
@@ -181,6 +183,9 @@ public final class ModelTests {
         static final int[] FAR = {Integer.MIN_VALUE, Integer.MAX_VALUE, 1 << 31, 1 << 30, -32, 32, 64, 1 << 16};
 
         void same(String name, int... a) {
+            if (calls == MOST_CALLS) {
+                return;
+            }
             calls++;
             if (a.length > 0 && from(0, 60) == 0 && !name.equals("write")) {
                 a[from(0, a.length - 1)] = FAR[from(0, FAR.length - 1)];

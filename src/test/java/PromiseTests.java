@@ -74,15 +74,18 @@ public final class PromiseTests {
         due("grid() of " + text, x.grid(), clauses);
     }
 
-    private static void faulty(MeterDesk x, String text, int place) {
-        x.erase();
+    /** On a new object, to which other texts were told ahead. */
+    private static void faulty(String text, int place, String... ahead) {
+        MeterDesk x = new MeterDesk();
+        for (String other : ahead) {
+            tell(x, other);
+        }
         type(x, text);
         due("fault() of " + text, x.fault(), place);
         if (place != MeterDesk.NONE) {
             due("grid() of " + text, x.grid(), MeterDesk.NOT);
             due("count(12) behind grid() of " + text, x.count(12), text.length());
         }
-        x.erase();
     }
 
     private static String times(String part, int n, String between) {
@@ -138,103 +141,100 @@ public final class PromiseTests {
 
     private static void faultOfWords() {
         promise = 4;
+        faulty("", 0);
+        faulty("   ", 3);
+        faulty(";", 0);
+        faulty("grid", 4);
+        faulty("grid  ", 6);
+        faulty("gri 4", 0);
+        faulty("grids 4", 0);
+        faulty("Grid 4", 0);
+        faulty("4", 0);
+        faulty("grid 4 grid 4", 7);
+        faulty("grid 4,", 6);
+        faulty("grid 4;", 7);
+        faulty("grid 4; ;", 8);
+        faulty("grid 4;node", 11);
+        faulty("grid ;", 5);
+        faulty("grid x4", 5);
+        faulty("grid 4x", 6);
+        faulty("grid\t4", 4);
+        faulty("gridz 4", 0);
+        faulty("agrid 4", 0);
+        faulty("grid 4z", 6);
+        faulty("grid`4", 4);
+        faulty("grid{4", 4);
+        faulty("grid 4/", 6);
+        faulty("grid 4:", 6);
+        faulty("grid 4;met 0", 7);
+        faulty("grid 4" + (char) 233, 6);
+        faulty("grid -4", 5);
+        faulty("grid 4", MeterDesk.NONE);
+        faulty("  grid   4  ;  node   3  ", MeterDesk.NONE);
+        faulty("grid4;node3", MeterDesk.NONE);
+        faulty("grid 04;node 03", MeterDesk.NONE);
         MeterDesk x = new MeterDesk();
-        faulty(x, "", 0);
-        faulty(x, "   ", 3);
-        faulty(x, ";", 0);
-        faulty(x, "grid", 4);
-        faulty(x, "grid  ", 6);
-        faulty(x, "gri 4", 0);
-        faulty(x, "grids 4", 0);
-        faulty(x, "Grid 4", 0);
-        faulty(x, "4", 0);
-        faulty(x, "grid 4 grid 4", 7);
-        faulty(x, "grid 4,", 6);
-        faulty(x, "grid 4;", 7);
-        faulty(x, "grid 4; ;", 8);
-        faulty(x, "grid 4;node", 11);
-        faulty(x, "grid ;", 5);
-        faulty(x, "grid x4", 5);
-        faulty(x, "grid 4x", 6);
-        faulty(x, "grid\t4", 4);
-        faulty(x, "gridz 4", 0);
-        faulty(x, "agrid 4", 0);
-        faulty(x, "grid 4z", 6);
-        faulty(x, "grid`4", 4);
-        faulty(x, "grid{4", 4);
-        faulty(x, "grid 4/", 6);
-        faulty(x, "grid 4:", 6);
-        faulty(x, "grid 4;met 0", 7);
-        faulty(x, "grid 4" + (char) 233, 6);
-        faulty(x, "grid -4", 5);
-        faulty(x, "grid 4", MeterDesk.NONE);
-        faulty(x, "  grid   4  ;  node   3  ", MeterDesk.NONE);
-        faulty(x, "grid4;node3", MeterDesk.NONE);
-        faulty(x, "grid 04;node 03", MeterDesk.NONE);
+        type(x, "grid 4");
+        due("fault()", x.fault(), MeterDesk.NONE);
         due("count(0): fault() does nothing", x.count(0), 3);
     }
 
     private static void faultOfNumbers() {
         promise = 4;
-        MeterDesk x = new MeterDesk();
-        faulty(x, "grid 1", 5);
-        faulty(x, "grid 2", MeterDesk.NONE);
-        faulty(x, "grid 8", MeterDesk.NONE);
-        faulty(x, "grid 9", 5);
-        faulty(x, "grid 004", 5);
-        faulty(x, "line 3 0", 5);
-        faulty(x, "line 0 3", 7);
-        faulty(x, "line 2 2", 7);
-        faulty(x, "line 2 02", 7);
-        faulty(x, "line 01", 7);
-        faulty(x, "line 2 0", MeterDesk.NONE);
-        faulty(x, "grid 4;line 0 3", MeterDesk.NONE);
-        faulty(x, "line 0 1;flow 1", 14);
-        faulty(x, "line 0 1;flow 0;pair 0", MeterDesk.NONE);
-        faulty(x, "flow 0;line 0 1", 5);
-        faulty(x, "line 0 1;grid 3;flow 0", 21);
-        faulty(x, "node 3", 5);
-        faulty(x, "wide 3", 5);
-        faulty(x, "dull 3", 5);
-        faulty(x, "node 2;wide 2;dull 2", MeterDesk.NONE);
-        faulty(x, "offer 5 0 1", 6);
-        faulty(x, "offer 4 3 1", 8);
-        faulty(x, "offer 1 0 1", 8);
-        faulty(x, "offer 2 0 0", 10);
-        faulty(x, "offer 2 0 10", 10);
-        faulty(x, "offer 2 0", 9);
-        faulty(x, "offer 2 0 9", MeterDesk.NONE);
-        faulty(x, "line 1 2;offer 1 0 1", MeterDesk.NONE);
+        faulty("grid 1", 5);
+        faulty("grid 2", MeterDesk.NONE);
+        faulty("grid 8", MeterDesk.NONE);
+        faulty("grid 9", 5);
+        faulty("grid 004", 5);
+        faulty("line 3 0", 5);
+        faulty("line 0 3", 7);
+        faulty("line 2 2", 7);
+        faulty("line 2 02", 7);
+        faulty("line 01", 7);
+        faulty("line 2 0", MeterDesk.NONE);
+        faulty("grid 4;line 0 3", MeterDesk.NONE);
+        faulty("line 0 1;flow 1", 14);
+        faulty("line 0 1;flow 0;pair 0", MeterDesk.NONE);
+        faulty("flow 0;line 0 1", 5);
+        faulty("line 0 1;grid 3;flow 0", 21);
+        faulty("node 3", 5);
+        faulty("wide 3", 5);
+        faulty("dull 3", 5);
+        faulty("node 2;wide 2;dull 2", MeterDesk.NONE);
+        faulty("offer 5 0 1", 6);
+        faulty("offer 4 3 1", 8);
+        faulty("offer 1 0 1", 8);
+        faulty("offer 2 0 0", 10);
+        faulty("offer 2 0 10", 10);
+        faulty("offer 2 0", 9);
+        faulty("offer 2 0 9", MeterDesk.NONE);
+        faulty("line 1 2;offer 1 0 1", MeterDesk.NONE);
     }
 
     private static void faultOfLimits() {
         promise = 4;
-        MeterDesk x = new MeterDesk();
         String lines = times("line 0 1", 10, ";");
-        faulty(x, lines, MeterDesk.NONE);
-        faulty(x, lines + ";line", 90);
-        faulty(x, lines + ";line 0 1", 90);
-        faulty(x, lines + ";grid 2;line 0 1", MeterDesk.NONE);
+        faulty(lines, MeterDesk.NONE);
+        faulty(lines + ";line", 90);
+        faulty(lines + ";line 0 1", 90);
+        faulty(lines + ";grid 2;line 0 1", MeterDesk.NONE);
         String meters = times("node 0", 9, ";");
-        faulty(x, meters, MeterDesk.NONE);
-        faulty(x, meters + ";node 0", 63);
-        faulty(x, meters + "; wide 0", 64);
-        faulty(x, meters + ";grid 3;node 0", MeterDesk.NONE);
+        faulty(meters, MeterDesk.NONE);
+        faulty(meters + ";node 0", 63);
+        faulty(meters + "; wide 0", 64);
+        faulty(meters + ";grid 3;node 0", MeterDesk.NONE);
         String offers = times("offer 2 0 1", 6, ";");
-        faulty(x, offers, MeterDesk.NONE);
-        faulty(x, offers + ";offer 2 0 1", 72);
-        faulty(x, offers + ";grid 3;offer 2 0 1", MeterDesk.NONE);
+        faulty(offers, MeterDesk.NONE);
+        faulty(offers + ";offer 2 0 1", 72);
+        faulty(offers + ";grid 3;offer 2 0 1", MeterDesk.NONE);
         String clauses = times("grid 2", 24, ";");
-        faulty(x, clauses, MeterDesk.NONE);
-        faulty(x, clauses + ";grid 2", 167);
-        faulty(x, clauses + ";", 167);
-        faulty(x, clauses + "  ", MeterDesk.NONE);
-        tell(x, lines);
-        faulty(x, "line 0 1", 0);
-        tell(x, meters);
-        faulty(x, "flow 0", 0);
-        tell(x, offers);
-        faulty(x, "offer 0 0 1", 0);
+        faulty(clauses, MeterDesk.NONE);
+        faulty(clauses + ";grid 2", 167);
+        faulty(clauses + ";", 167);
+        faulty(clauses + "  ", MeterDesk.NONE);
+        faulty("line 0 1", 0, lines);
+        faulty("flow 0", 0, lines, meters);
+        faulty("offer 0 0 1", 0, lines, offers);
     }
 
     private static void grid() {
