@@ -184,6 +184,11 @@ public final class DeedEdges {
         desk.due(2, "undo").due(1, "count", 8).due(1, "count", 4);
         desk.due(1, "undo").due(0, "count", 8).due(2, "count", 2);
         desk.due(0, "undo").due(1, "count", 2).due(NOT, "undo");
+        // what is undone is one deed: others of its kind stay
+        Case broken = new Case("line 0 1;line 0 1;" + times("node 0", 9)).then("spoil", 0).then("spoil", 8);
+        broken.open().due(1, "mend", 8).due(1, "count", 8).due(2, "undo").due(257, "count", 8).due(1, "undo").due(1, "count", 8);
+        broken.open().due(1, "mend", 0).due(256, "count", 8).due(2, "undo").due(257, "count", 8);
+        broken.open().due(1, "cut", 0).due(0, "cut", 1).due(3, "undo").due(1, "line", 0, 2).due(0, "line", 1, 2).due(257, "count", 8);
     }
 
     private static void lastEight() {
@@ -275,6 +280,10 @@ public final class DeedEdges {
         desk.due(0, "meter", 8, 0).due(1, "meter", 8, 1).due(FULL, "put", 2, 0).due(NOT, "undo");
         desk.due(1, "back", 1).due(8, "count", 2).due(1, "count", 8).due(0, "line", 0, 2).due(8, "put", 2, 0).due(1, "count", 11);
         desk.due(0, "back", 0).due(0, "count", 11).due(1, "back", 1).due(8, "count", 2);
+        // a meter of the same number may have been another one
+        Case other = new Case("line 0 1;line 1 2;line 0 2").then("put", 0, 1).then("keep", 0).then("undo").then("put", 4, 2).then("keep", 1);
+        other.open().due(1, "back", 0).due(0, "meter", 0, 0).due(1, "meter", 0, 1).due(2, "meter", 0, 3)
+            .due(1, "back", 1).due(4, "meter", 0, 0).due(2, "meter", 0, 1).due(4, "meter", 0, 3);
         // trays, what was seen and the text stay
         rich().then("back", 0).due(3, "count", 10).due(1, "count", 9).due(13, "count", 12).due(1, "take", 0, 2);
     }

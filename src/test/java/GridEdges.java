@@ -66,6 +66,10 @@ public final class GridEdges {
         new Case(ROW + ";node 3;node 3").due(2, "count", 4).due(12, "count", 6);
         new Case(ROW + ";node 3;node 3;node 3").due(2, "count", 4).due(12, "count", 6);
         new Case("grid 2;" + times("line 0 1", 10) + ";" + times("pair 9", 9)).due(1, "count", 4).due(1, "count", 6);
+        // the first and the seventh line at one node; the last four in one row
+        new Case("grid 8;line 0 1;line 1 2;line 2 3;line 3 4;line 4 5;line 5 6;line 0 7;flow 6;node 0").due(2, "count", 4).due(65, "count", 6);
+        new Case("grid 6;" + times("line 0 1", 6) + ";line 1 2;line 2 3;line 3 4;line 4 5;flow 6;flow 7;flow 8;flow 9;flow 5")
+            .due(5, "count", 4).due(992, "count", 6).due(5, "count", 5).due(1, "count", 13);
     }
 
     private static void ringsAndLeastTree() {
@@ -111,6 +115,9 @@ public final class GridEdges {
         new Case(row + "wide 1;wide 1;wide 1").due(0, "line", 0, 4).due(1, "line", 1, 4).due(2, "line", 2, 4);
         // line 1 has to leave meter 1 to line 2
         new Case(row + "flow 0;wide 3;node 1").due(0, "line", 0, 4).due(2, "line", 1, 4).due(1, "line", 2, 4);
+        // what served ahead of a cut is asked for, and forgotten behind it
+        new Case("line 0 1;line 1 2;wide 2;node 0").open().due(1, "line", 0, 4).due(0, "line", 1, 4)
+            .due(1, "cut", 1).due(1, "line", 0, 4).due(NONE, "line", 1, 4).due(NONE, "meter", 0, 4).due(1, "count", 7);
         Sentences.sentence(6, "SPARE: METERS, not BROKEN, that serve for none so.");
         Case nine = new Case("grid 2;line 0 1;" + times("flow 0", 9));
         nine.due(510, "count", 7);

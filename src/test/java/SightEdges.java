@@ -57,6 +57,8 @@ public final class SightEdges {
         // lines that no meter tells join nothing; nor do those that were left out of the tree
         new Case("grid 4;line 0 1;line 0 1;line 2 3;flow 1;pair 0").due(3, "island", 0).due(4, "island", 2).due(8, "island", 3);
         new Case("grid 2;line 0 1;node 1").due(3, "island", 0).due(3, "island", 1);
+        new Case("line 0 2;line 1 2;flow 0;flow 1").open().due(7, "island", 0).due(1, "cut", 0).due(1, "island", 0).due(6, "island", 1)
+            .due(0, "cut", 1).due(1, "island", 0).due(2, "island", 1).due(4, "island", 2);
     }
 
     private static void whichNode() {
@@ -121,6 +123,10 @@ public final class SightEdges {
         new Case("line 0 1").quiet(NONE, "deal", 0).quiet(NONE, "deal", 1);
         new Case("line 0 1;offer 4 0 1;offer 2 2 1").quiet(NONE, "deal", 0).quiet(NONE, "deal", 1);
         new Case(ROW, times("offer 3 3 1", 6)).due(NONE, "deal", 0).due(NONE, "deal", 1);
+        // what was asked ahead of it does not matter
+        new Case("line 0 1;flow 0").open().due(1, "weak", 0).due(0, "deal", 0).due(0, "spoil", 0).due(NONE, "deal", 0).due(NONE, "weak", 0);
+        new Case("line 0 1;" + times("flow 0", 9) + ";" + times("offer 2 2 1", 6)).then("weak", 0).then("cut", 0).then("undo").due(0, "deal", 0)
+            .then("spoil", 0).due(0, "deal", 0).due(510, "weak", 0);
         new Case("line 0 1;line 1 2;" + times("offer 0 0 1", 6)).due(NONE, "deal", 0).then("cut", 1).due(1, "deal", 0).due(1, "deal", 1);
     }
 

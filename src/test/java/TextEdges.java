@@ -1,3 +1,6 @@
+import java.util.regex.Matcher;
+import java.util.regex.Pattern;
+
 /** Boundary cases of the promises 1 to 5: a new object, THE TEXT, its FAULT, its CLAUSES. A test for each sentence. */
 public final class TextEdges {
     private static final int NONE = MeterDesk.NONE, UNKNOWN = MeterDesk.UNKNOWN, OUTSIDE = MeterDesk.OUTSIDE;
@@ -130,20 +133,13 @@ public final class TextEdges {
         fault(0, "");
         fault(1, " ");
         String whole = "grid 4;line 0 3;flow 0;pair 0;node 3;wide 3;dull 3;offer 4 3 9";
-        // whole words and whole numbers, and behind them the end, at once or behind blanks
-        for (int end = 1; end < whole.length(); end++) {
-            boolean tokenEnds = !Character.isLetter(whole.charAt(end)) && whole.charAt(end) != ' ' && whole.charAt(end - 1) != ' '
-                || whole.charAt(end) == ' ' || whole.charAt(end - 1) == ';';
-            boolean clauseEnds = whole.charAt(end) == ';';
-            if (tokenEnds && !clauseEnds) {
-                fault(end, whole.substring(0, end));
-                fault(end + 3, whole.substring(0, end) + "   ");
-            } else if (clauseEnds) {
-                fault(NONE, whole.substring(0, end));
-                fault(NONE, whole.substring(0, end) + "   ");
-            }
+        Matcher tokens = Pattern.compile("[a-z]+|[0-9]+|;").matcher(whole);
+        while (tokens.find()) {
+            String start = whole.substring(0, tokens.end());
+            boolean clauseEnds = tokens.end() == whole.length() || whole.charAt(tokens.end()) == ';';
+            fault(clauseEnds ? NONE : start.length(), start);
+            fault(clauseEnds ? NONE : start.length() + 3, start + "   ");
         }
-        fault(NONE, whole);
         fault(7, "grid 4;");
         fault(0, ";grid 4");
         fault(7, "grid 4;;grid 4");
@@ -188,11 +184,13 @@ public final class TextEdges {
         fault(6, "grid 4" + (char) 160);
         String[] words = {"grid", "line", "flow", "pair", "node", "wide", "dull", "offer"};
         for (String word : words) {
-            fault(0, word.substring(1) + " 0");
-            fault(0, word.substring(0, word.length() - 1) + " 0");
             fault(0, word + "s 0");
             fault(0, "a" + word + " 0");
             fault(word.length(), word);
+            for (int i = 0; i < word.length(); i++) {
+                fault(0, word.substring(0, i) + "z" + word.substring(i + 1) + " 0");
+                fault(0, word.substring(0, i) + word.substring(i + 1) + " 0");
+            }
         }
     }
 
